@@ -599,7 +599,6 @@ public final class DrownedRooms {
 
         void advance() {
             keyword = NONE;
-            value = NONE;
             while (behind < length && isBlank(bytes[behind])) {
                 behind++;
             }
@@ -728,7 +727,6 @@ public final class DrownedRooms {
             houses = other.houses;
             rooms = other.rooms;
             guests = other.guests;
-            toldOnce = other.toldOnce;
             System.arraycopy(other.names, 0, names, 0, MOST_NAMES);
             System.arraycopy(other.x, 0, x, 0, MOST_HOUSES);
             System.arraycopy(other.y, 0, y, 0, MOST_HOUSES);
@@ -1393,11 +1391,10 @@ public final class DrownedRooms {
         /** Lived as far as no LINE is WRONG: the LINE that is, or NONE. */
         int live(Lake lake) {
             whyWrong = 0;
-            right = 0;
-            while (right < lines && whyWrong == 0) {
+            for (right = 0; right < lines; right++) {
                 whyWrong = liveLine(lake, right);
-                if (whyWrong == 0) {
-                    right++;
+                if (whyWrong != 0) {
+                    break;
                 }
             }
             isJudged = true;
@@ -1765,7 +1762,7 @@ public final class DrownedRooms {
         }
 
         private void tryDay(Lake lake, int r, int i, int level, int gain) {
-            if (gain + TOP_WHEEL * (days - i) <= mostGain) {
+            if (gain + mostToCome(lake.valley, i, level) <= mostGain) {
                 return;
             }
             if (i >= days) {
@@ -1780,6 +1777,13 @@ public final class DrownedRooms {
                     tryDay(lake, r, i + 1, next, gain + lake.valley.millsGain(level, n));
                 }
             }
+        }
+
+        /** No way to go on from DAY i brings more: nothing where even rain on each DAY leaves the lake too low. */
+        private int mostToCome(Valley valley, int i, int level) {
+            int daysLeft = days - i;
+            boolean canBeHigh = level + valley.rise * (daysLeft - 1) >= valley.millLevel;
+            return canBeHigh ? TOP_WHEEL * daysLeft : 0;
         }
     }
 

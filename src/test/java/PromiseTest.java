@@ -41,6 +41,8 @@ public final class PromiseTest {
         said();
         images();
         count();
+        fullValley();
+        lastDay();
         c.close("PromiseTest");
     }
 
@@ -740,6 +742,7 @@ public final class PromiseTest {
         c.due("none is kept for none", y.undo(), 6);
         drawnStorms();
         drawnGuests();
+        drawnLeaving();
     }
 
     private static int seed;
@@ -779,6 +782,37 @@ public final class PromiseTest {
             c.due("f by " + from, x.guest(1, 2), room[1]);
             c.due("nights by " + from, x.guest(0, 3), room[0] < 0 ? 0 : 2);
         }
+    }
+
+    /** With 'storm' at 0 the LEVEL stays, so that who leaves and who takes what is drawn alone. */
+    private static void drawnLeaving() {
+        int left = 0;
+        for (int from = 0; from < 60; from++) {
+            DrownedRooms x = Check.in("lake 9;rain 1 1;house h 0 0;room a h 9 1;guest e 50 1;sleeps e a 30;");
+            seed = from;
+            int nights = 30;
+            int room = 0;
+            for (int day = 0; day < 5; day++) {
+                int lot = draw(8);
+                if (lot == 1) {
+                    draw(1);
+                    nights = room < 0 ? 3 : nights;
+                    room = 0;
+                }
+                if (lot == 0) {
+                    room = -1;
+                    nights = 0;
+                    left++;
+                }
+                draw(12);
+                nights -= room < 0 ? 0 : 1;
+                room = nights == 0 ? -1 : room;
+            }
+            x.drawn(5, from);
+            c.due("room by " + from, x.guest(0, 2), room);
+            c.due("nights by " + from, x.guest(0, 3), nights);
+        }
+        c.due("some left", left > 5, true);
     }
 
     // Promise 34
@@ -1043,6 +1077,106 @@ public final class PromiseTest {
         Check.sentence(y, "wet");
         y.restore(1);
         c.due("no SENTENCE was kept", y.said(-1), -1);
+    }
+
+    /** As many of each sort as there may be, and numbers at the ends of their ranges. */
+    private static void fullValley() {
+        StringBuilder text = new StringBuilder("lake 0;rain 1 0;mill 0;storm 0;");
+        for (int i = 0; i < 5; i++) {
+            text.append("house h").append((char) ('a' + i)).append(' ').append(4 * i + 4).append(' ').append(20 - 5 * i);
+            text.append(';');
+        }
+        for (int i = 0; i < 8; i++) {
+            text.append("room r").append((char) ('a' + i)).append(" h").append((char) ('a' + i % 5)).append(" 0 30;");
+        }
+        for (int i = 0; i < 6; i++) {
+            text.append("guest g").append((char) ('a' + i)).append(" 30 0;");
+        }
+        for (int i = 0; i < 6; i++) {
+            text.append("sleeps g").append((char) ('a' + i)).append(" r").append((char) ('a' + i)).append(" 2;");
+        }
+        text.append("quarrel ga gf;quarrel gb gf;");
+        DrownedRooms x = Check.in(text.toString());
+        c.due("a full VALLEY", x.fault(), 0);
+        c.due("nothing is wet", x.now(4), 0);
+        c.due("six are let", x.now(5), 63);
+        c.due("the eighth", x.room(7, 0), 2);
+        c.due("the sixth", x.room(5, 4), 5);
+        c.due("nobody", x.room(7, 4), -1);
+        c.due("all others", x.visits(5), 31);
+        c.due("far from foes", x.quiet(5), 128);
+        c.due("one pair in one house", x.quarrels(), 1);
+        c.due("all pay", x.brings(1), 180);
+        c.due("only once", x.brings(60), 180);
+        c.due("through five houses", x.round() > 0 && x.roundAt(4) >= 0 && x.roundAt(5) < 0, true);
+        Check.sentence(x, "not wet");
+        c.due("all eight", x.said(-1), 8);
+        c.due("the last of eight", x.said(7), 7);
+        Check.putBytes(x, 5, 0, 1, 5, 0, 1, 5, 0, 1, 5, 0, 1, 5, 0, 1);
+        c.due("five stays", x.stays(), 5);
+        c.due("the fifth", x.stayAt(4), 4);
+        Check.putBytes(x, 7, 0);
+        c.due("one LEVEL", x.marks(), 1);
+        c.due("the lowest", x.lowest(), 0);
+        c.due("the highest", x.highest(), 0);
+        x.days(1);
+        c.due("a purse of just the price", x.guest(5, 0), 0);
+        c.due("all brought", x.now(6), 180);
+        x.undo();
+        c.due("the mills are undone", x.now(3), 0);
+        c.due("the purse is undone", x.guest(5, 0), 30);
+        Check.valley(x, "house q 0 0;room p q 0 1;guest o 1 20;sleeps o p 9;");
+        c.due("brought nothing in a new VALLEY", x.now(6), 0);
+        c.due("no quarrels in a new VALLEY", x.guest(0, 5), 0);
+        x.days(1);
+        c.due("a wet night", x.guest(0, 4), 1);
+        x.undo();
+        c.due("a wet night undone", x.guest(0, 4), 0);
+        x.days(1);
+        Check.valley(x, "guest o 1 20;");
+        c.due("no wet night in a new VALLEY", x.guest(0, 4), 0);
+        c.due("lived", Check.book(base(), "ben takes dach 9;day 1;ben takes dach 9;", 1), 2);
+        DrownedRooms y = base();
+        Check.book(y, "ben takes dach 9;day 1;", 1);
+        c.due("he has it", y.guest(1, 3), 8);
+    }
+
+    /** What can be done while one DAY is left, and when none is. */
+    private static void lastDay() {
+        DrownedRooms x = Check.in("lake 5;rain 30 9;mill 0;house h 0 0;room r h 0 1;room s h 99 1;guest g 9 20;");
+        x.wheel(0);
+        Check.book(x, "day 60;day 60;day 60;day 60;day 60;day 60;day 39;", 1);
+        c.due("the day ahead of the last", x.now(0), 399);
+        c.due("dry(1, 1)", x.dry(1, 1), 1);
+        c.due("level(1)", x.level(1), 99);
+        c.due("plan(1, 1)", x.plan(1, 1), 5);
+        c.due("plan(1, 2)", x.plan(1, 2), -1);
+        c.due("odds of one", x.odds(1, 1, 3), 1);
+        c.due("fewer than 20 DAYS", x.odds(1, 30, 3), 30);
+        Check.putBytes(x, 0, 0, 1, 0, 0, 2);
+        c.due("a stay until the end", x.stays(), 1);
+        c.due("days(60)", x.days(60), 1);
+        c.due("can be undone", x.undo(), 2);
+        c.due("drawn(60, 1)", x.drawn(60, 1), 1);
+        c.due("drawn can be undone", x.undo(), 2);
+        x.days(1);
+        c.due("no day", x.days(1), 0);
+        c.due("no drawn day", x.drawn(1, 1), 0);
+        c.due("the latest that was done", x.undo(), 2);
+        c.due("dry of none", x.dry(1, 1), 1);
+        x.days(1);
+        c.due("dry behind all", x.dry(1, 60), 0);
+        c.due("wet now, behind all", x.wets(0), 0);
+        c.due("brings nothing", x.brings(60), 0);
+        c.due("no plan", x.plan(1, 1), -1);
+        Check.putBytes(x, 0, 0, 1);
+        c.due("no stay", x.stays(), 0);
+        c.due("all the same, he takes it", x.take(0, 1, 1), 0);
+        DrownedRooms y = Check.in("lake 0;rain 25 1;house h 0 0;room r h 15 1;");
+        y.wheel(0);
+        Check.book(y, "day 60;day 60;day 60;day 60;day 60;day 60;", 1);
+        c.due("14 DAYS of rain", y.now(1), 14);
+        c.due("15 and 16 are to come", y.wets(0), 40);
     }
 
     // Promise 41
