@@ -3,11 +3,40 @@ import java.util.NoSuchElementException;
 /** What the tests share: a text put on the tape, and what is due compared with what was answered. */
 final class Check {
     private int wrong;
+    private Document part;
+    private String sentence = "";
+
+    /** What comes is about this part of the document, all of whose words must be quoted by then. */
+    void reads(Document document) {
+        allQuoted();
+        part = document;
+        sentence = "";
+    }
+
+    /** The answers behind this are due by these words of the document. */
+    void says(String words) {
+        sentence = "[" + words + "] ";
+        if (part == null || !part.quote(words)) {
+            wrong(sentence + "does not stand there in the document");
+        }
+    }
+
+    private void allQuoted() {
+        if (part != null && !part.unquoted().isEmpty()) {
+            sentence = "";
+            wrong("no test quotes the document's words: " + part.unquoted());
+        }
+        part = null;
+    }
+
+    private void wrong(String what) {
+        wrong++;
+        System.out.println(what);
+    }
 
     void due(String call, long got, long want) {
         if (got != want) {
-            wrong++;
-            System.out.println(call + " answered " + got + ", due is " + want);
+            wrong(sentence + call + " answered " + got + ", due is " + want);
         }
     }
 
@@ -17,8 +46,7 @@ final class Check {
 
     void dueText(String call, String got, String want) {
         if (!got.equals(want)) {
-            wrong++;
-            System.out.println(call + " answered '" + got + "', due is '" + want + "'");
+            wrong(sentence + call + " answered '" + got + "', due is '" + want + "'");
         }
     }
 
@@ -99,6 +127,7 @@ final class Check {
 
     /** Ends the test, with exit code 1 if an answer was wrong. */
     void close(String name) {
+        allQuoted();
         System.out.println(name + ": " + (wrong == 0 ? "all answers are as due" : wrong + " answers are not as due"));
         if (wrong != 0) {
             System.exit(1);
