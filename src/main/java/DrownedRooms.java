@@ -1335,25 +1335,21 @@ public final class DrownedRooms {
         private int dayThen;
         private int levelThen;
 
-        /** False by a FAULT, which the tape knows. */
-        boolean readFrom(Tape tape, Valley valley) {
+        /** Up to the end or to a FAULT, which the tape knows. */
+        void readFrom(Tape tape, Valley valley) {
             lines = 0;
             tape.open(MOST_BYTES);
             for (int i = 0; i <= MOST_LINES; i++) {
                 tape.advance();
-                if (tape.isEnd()) {
-                    return true;
-                }
-                if (!readLine(tape, valley)) {
-                    return false;
+                if (tape.isEnd() || !readLine(tape, valley)) {
+                    return;
                 }
                 number[lines] = tape.value();
                 lines++;
                 if (!tape.nextIsSign(';')) {
-                    return false;
+                    return;
                 }
             }
-            return false;
         }
 
         private boolean readLine(Tape tape, Valley valley) {
@@ -1487,15 +1483,14 @@ public final class DrownedRooms {
             System.arraycopy(other.number, 0, number, 0, MOST_STEPS);
         }
 
-        /** False by a FAULT, which the tape knows. */
-        boolean readFrom(Tape tape, Valley valley) {
+        /** Up to the end or to a FAULT, which the tape knows. */
+        void readFrom(Tape tape, Valley valley) {
             forget();
             tape.open(MOST_BYTES);
             tape.advance();
-            if (!readCond(tape, valley, 1)) {
-                return false;
+            if (readCond(tape, valley, 1) && !tape.isEnd()) {
+                tape.refuse(CANT_COME);
             }
-            return tape.isEnd() || tape.refuse(CANT_COME);
         }
 
         // Each of these begins at its first TOKEN and ends at the one behind it.

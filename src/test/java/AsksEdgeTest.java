@@ -219,6 +219,8 @@ public final class AsksEdgeTest {
         DrownedRooms rain = Check.in("lake 10;rain 1 5;mill 10;house h 0 0;room a h 10 1;room b h 9 1;");
         planIs(rain, 0, 5, 25, 5, 5, 5, 5, 5, -1);
         planIs(rain, 1, 5, -1, 5);
+        // The second DAY begins too low for the mills; the rain of that DAY makes it high enough for the third.
+        planIs(Check.in("lake 15;rain 2 9;mill 15;house h 0 0;room a h 15 1;"), 0, 3, 10, 5, 4, 5, -1);
         c.says("of like ones the first: DAY by DAY the least.");
         DrownedRooms y = Check.in("lake 20;house h 0 0;room a h 18 1;room b h 20 1;");
         planIs(y, 1, 3, 10, 0, 5, 5, -1);
@@ -341,6 +343,19 @@ public final class AsksEdgeTest {
         DrownedRooms y = Check.in("house h 0 0;room a h 9 1;room b h 11 1;room d h 10 1;room e h 12 1;");
         marksAre(y, new int[] {0, 1, 3, 0}, 3, 10, 12);
         c.due("of like ones the first", y.bell(), 1);
+        DrownedRooms z = Check.in("house h 0 0;room a h 9 1;room b h 10 1;room d h 11 1;room e h 12 1;");
+        marksAre(z, new int[] {0, 1, 3, 0}, 3, 10, 12);
+        c.due("of like ones the first, the other way round", z.bell(), 1);
+        DrownedRooms one = Check.in("house h 0 0;room a h 99 1;");
+        marksAre(one, new int[] {0, 0}, 100, 0, 99);
+        c.due("all 100 may still be left", one.bell(), 0);
+        // Of 10 .. 14 the last alone tells one from four; the others tell nothing.
+        DrownedRooms five = Check.in("house h 0 0;room a h 99 1;room b h 9 1;room d h 14 1;room e h 10 1;");
+        marksAre(five, new int[] {1, 1, 2, 0}, 5, 10, 14);
+        c.due("one and four", five.bell(), 3);
+        DrownedRooms deep = Check.in("house h 0 0;room a h 5 1;room b h 9 1;room d h 14 1;");
+        marksAre(deep, new int[] {1, 1, 2, 0}, 5, 10, 14);
+        c.due("far below tells as little as just below", deep.bell(), 0);
     }
 
     private static void visits() {

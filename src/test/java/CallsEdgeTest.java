@@ -52,6 +52,7 @@ public final class CallsEdgeTest {
         image();
         restore();
         count();
+        full();
         lastCalls();
         c.close("CallsEdgeTest");
     }
@@ -187,6 +188,12 @@ public final class CallsEdgeTest {
         x.end(7);
         x.feed(0x20202020, 0x20202020, 0x20202020, 0x20202020, 0x20202020);
         c.due("those behind are gone", x.valley(), 1);
+        Check.put(x, "lake 55;");
+        x.end(6);
+        c.due("a TOKEN ends where the tape does", x.valley(), -7);
+        Check.put(x, "wets");
+        x.end(3);
+        c.due("a WORD ends where the tape does", x.sentence(), 1);
         Check.put(x, "lake 5;");
         c.due("end(0)", x.end(0), true);
         c.due("none is left", x.count(7), 0);
@@ -536,6 +543,13 @@ public final class CallsEdgeTest {
         y.drawn(1, 1);
         c.due("no DAY went by", y.undo(), 6);
         c.due("the latest that did is undone", y.now(0), 360);
+        DrownedRooms z = behind(399);
+        c.due("the last DAY", z.days(60), 1);
+        z.undo();
+        c.due("it is undone", z.now(0), 399);
+        c.due("the last DAY, DRAWN", z.drawn(60, 1), 1);
+        z.undo();
+        c.due("it is undone too", z.now(0), 399);
     }
 
     private static void level() {
@@ -646,18 +660,19 @@ public final class CallsEdgeTest {
         x.stays();
         c.due("by the latest that was not NONE", x.stayAt(1), 3);
         c.says("NONE: none, none such, or ahead of any.");
-        none("none", x, k -> x.stayAt(k), 2);
+        c.due("none", x.stayAt(2), -1);
         none("none such", x, k -> x.stayAt(k), -1, 3, 4, 5, MAX, MIN);
         Check.putBytes(x, 0, 0, 1, 0, 0, 1, 0, 0, 1, 0, 0, 1, 0, 1, 1);
         x.stays();
         c.due("the fifth", x.stayAt(4), 0);
-        none("no sixth", x, k -> x.stayAt(k), 5);
+        c.due("no sixth", x.stayAt(5), -1);
         Check.putBytes(x, 0, 0, 1);
         x.stays();
-        none("fewer now", x, k -> x.stayAt(k), 1, 4);
+        c.due("no second now", x.stayAt(1), -1);
+        c.due("no fifth now", x.stayAt(4), -1);
         Check.putBytes(x, 0, 255, 30);
         c.due("0 is not NONE", x.stays(), 0);
-        none("none by it", x, k -> x.stayAt(k), 0, 1);
+        c.due("none by it", x.stayAt(0), -1);
     }
 
     private static void plan() {
@@ -698,7 +713,8 @@ public final class CallsEdgeTest {
         c.says("NONE: none such, or ahead of any.");
         none("none such", x, i -> x.planAt(i), -1, 3, 4, 5, MAX, MIN);
         x.plan(0, 1);
-        none("fewer now", x, i -> x.planAt(i), 1, 2);
+        c.due("no second now", x.planAt(1), -1);
+        c.due("no third now", x.planAt(2), -1);
         Check.valley(x, "");
         c.due("in another VALLEY", x.planAt(0), 5);
     }
@@ -1072,6 +1088,7 @@ public final class CallsEdgeTest {
         toldIs(x, "anna takes klamm 1;", 0, 1, 0, 0, 18);
         toldIs(x, "day 1;ben takes klamm 1;", 1, 2, 1, 1, 17);
         toldIs(x, "ben takes keller 1;", 0, 3, 0, 0, 18);
+        toldIs(x, "", -1, 0, 0, 0, 18);
         toldIs(x, "ben leaves;", 0, 11, 0, 0, 18);
         toldIs(x, "wheel 0;wheel 0;", 1, 21, 1, 0, 18);
         String most = "day 60;".repeat(6);
@@ -1254,6 +1271,50 @@ public final class CallsEdgeTest {
         }
         c.says("NONE for another what.");
         none("count", x, what -> x.count(what), -1, 8, MAX, MIN);
+    }
+
+    /** As many of each sort as there may be: the last of each is asked for like the others. */
+    private static void full() {
+        StringBuilder text = new StringBuilder("lake 9;rain 1 1;mill 0;");
+        for (int i = 0; i < 5; i++) {
+            text.append("house h").append((char) ('a' + i)).append(' ').append(i).append(" 0;");
+        }
+        for (int i = 0; i < 8; i++) {
+            text.append("room r").append((char) ('a' + i)).append(" h").append((char) ('a' + i % 5)).append(" 9 1;");
+        }
+        for (int i = 0; i < 6; i++) {
+            text.append("guest g").append((char) ('a' + i)).append(" 99 0;");
+            text.append("sleeps g").append((char) ('a' + i)).append(" r").append((char) ('a' + i + 2)).append(" 9;");
+        }
+        DrownedRooms x = Check.in(text + "quarrel gf ge;quarrel ga gf;");
+        c.due("fault()", x.fault(), 0);
+        c.due("none is WET", x.now(4), 0);
+        c.due("six are let", x.now(5), 0b11111100);
+        c.due("who has the last", x.room(7, 4), 5);
+        c.due("visits(5)", x.visits(5), 0b11111);
+        // ga and gf have ROOMS in the third HOUSE, as gf's foe ge has one in the second.
+        c.due("quarrels()", x.quarrels(), 1);
+        c.due("quiet(5)", x.quiet(5), 0b00000001);
+        c.due("round()", x.round(), 8);
+        c.due("the last HOUSE", x.roundAt(4), 4);
+        c.due("brings(1)", x.brings(1), 6);
+        c.due("plan(7, 1)", x.plan(7, 1), 5);
+        c.due("dry(7, 60)", x.dry(7, 60), 60);
+        c.due("wets(7)", x.wets(7), -1);
+        c.due("odds(7, 1, 1)", x.odds(7, 1, 1), 1);
+        Check.sentence(x, "not wet");
+        c.due("said(-1)", x.said(-1), 8);
+        c.due("said(7)", x.said(7), 7);
+        Check.putBytes(x, 5, 0, 1, 4, 0, 1, 3, 0, 1, 2, 0, 1, 1, 0, 1);
+        c.due("stays()", x.stays(), 5);
+        Check.putBytes(x, 7, 0, 7, 0, 7, 0, 7, 0, 7, 0, 7, 0, 7, 0, 7, 0);
+        c.due("marks()", x.marks(), 10);
+        c.dueText("bill(5)", Check.billOf(x, 5), "gf in rh for 9 owns 99");
+        c.due("days(1)", x.days(1), 1);
+        c.due("all paid", x.now(6), 6);
+        c.due("the last paid", x.room(7, 5), 1);
+        c.due("book", Check.book(x, "gf leaves;gf takes ra 1;", 1), -1);
+        c.due("drawn(1, 1)", x.drawn(1, 1), 1);
     }
 
     private static void lastCalls() {

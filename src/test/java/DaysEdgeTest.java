@@ -297,10 +297,12 @@ public final class DaysEdgeTest {
         c.says("A new VALLEY: DAY 0, the WHEEL at 1, the mills have nothing, no SENTENCE.");
         DrownedRooms x = still("lake 20;mill 0;room a h 30 2;room b h 19 1;guest e 9 5;guest f 9 5;quarrel e f;"
                 + "sleeps e a 9;sleeps f b 9;");
+        x.days(1);
         x.wheel(3);
         x.days(2);
         Check.sentence(x, "wet");
-        c.due("the mills have", x.now(3), 6);
+        c.due("the mills have", x.now(3), 7);
+        c.due("f had a WET night", x.guest(1, 4), 1);
         String before = Seen.world(x);
         Check.valley(x, "lake 20;?");
         c.dueText("by a FAULT all stays", Seen.world(x), before);

@@ -51,13 +51,24 @@ public final class TermsEdgeTest {
         c.due("fault of valley " + text, x.fault(), 0);
     }
 
-    /** The FAULT is at the second text's first byte. */
+    /** The FAULT is at the second text's first byte, though others come behind it. */
     private static void valleyFails(String ahead, String at, int kind) {
         DrownedRooms x = base();
         String before = Seen.world(x);
-        c.due("valley " + ahead + at, Check.valley(x, ahead + at), -1 - ahead.length());
-        c.due("fault of valley " + ahead + at, x.fault(), kind);
+        for (String more : more(ahead, at)) {
+            c.due("valley " + more, Check.valley(x, more), -1 - ahead.length());
+            c.due("fault of valley " + more, x.fault(), kind);
+        }
         c.dueText("what is so behind valley " + ahead + at, Seen.world(x), before);
+    }
+
+    /** The text alone and, if it does not end with the FAULT, with FAULTS of other kinds behind it. */
+    private static String[] more(String ahead, String at) {
+        String text = ahead + at;
+        if (at.isEmpty() || text.length() > 920) {
+            return new String[] {text};
+        }
+        return new String[] {text, text + " ?", text + " lake 100;", text + " day 61;", text + " or wet)"};
     }
 
     private static void bookIs(String text, int wrongLine) {
@@ -70,8 +81,10 @@ public final class TermsEdgeTest {
         for (int lives = 0; lives < 2; lives++) {
             DrownedRooms x = base();
             String before = Seen.world(x);
-            c.due("book " + ahead + at, Check.book(x, ahead + at, lives), -2 - ahead.length());
-            c.due("fault of book " + ahead + at, x.fault(), kind);
+            for (String more : more(ahead, at)) {
+                c.due("book " + more, Check.book(x, more, lives), -2 - ahead.length());
+                c.due("fault of book " + more, x.fault(), kind);
+            }
             c.dueText("what is so behind book " + ahead + at, Seen.world(x), before);
         }
     }
@@ -85,8 +98,10 @@ public final class TermsEdgeTest {
     private static void sentenceFails(String ahead, String at, int kind) {
         DrownedRooms x = base();
         String before = Seen.world(x);
-        c.due("sentence " + ahead + at, Check.sentence(x, ahead + at), -1 - ahead.length());
-        c.due("fault of sentence " + ahead + at, x.fault(), kind);
+        for (String more : more(ahead, at)) {
+            c.due("sentence " + more, Check.sentence(x, more), -1 - ahead.length());
+            c.due("fault of sentence " + more, x.fault(), kind);
+        }
         c.dueText("what is so behind sentence " + ahead + at, Seen.world(x), before);
     }
 
@@ -383,6 +398,12 @@ public final class TermsEdgeTest {
         valleyFails(rooms.toString(), "room z a 1 1;", 4);
         valleyIs(guests.toString(), 19);
         valleyFails(guests.toString(), "guest z 1 1;", 4);
+        // The NAMES of one sort do not go on in those of the next.
+        valleyFails(houses + "room y a 1 1;room z ", "y 1 1;", 3);
+        valleyFails(guests + "sleeps n ", "n 1;", 3);
+        valleyFails(guests + "sleeps o ", "n 1;", 3);
+        valleyFails(guests + "sleeps ", "m n 1;", 3);
+        valleyFails(guests + "quarrel ", "nobody n;", 3);
         DrownedRooms x = Check.in(guests.toString());
         for (int r = 0; r < 8; r++) {
             c.due("HOUSE of ROOM " + r, x.room(r, 0), r % 5);
